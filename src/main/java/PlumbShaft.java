@@ -286,7 +286,7 @@ public final class PlumbShaft {
         }
         remember();
         Station oriented = now.stations[station];
-        oriented.orientation = onCircle(first + roundedDown(difference, 2));
+        oriented.orientation = onCircle((long) first + Math.floorDiv(difference, 2));
         oriented.hasOrientation = true;
         return oriented.orientation;
     }
@@ -647,27 +647,24 @@ public final class PlumbShaft {
     /** The bearing of a line; long, since the means of bent wires lie millions of millimeters apart. */
     private static int bearingOf(long dx, long dy) {
         long m = Math.abs(dx) + Math.abs(dy);
+        if (m == 0) {
+            return 0;
+        }
+        // No dividend is below 0 here, so that each quotient is rounded down.
         if (dx > 0 && dy >= 0) {
-            return (int) roundedDown(2000 * dy, m);
+            return (int) (2000 * dy / m);
         }
         if (dy > 0) {
-            return (int) (2000 + roundedDown(2000 * -dx, m));
+            return (int) (2000 + 2000 * -dx / m);
         }
         if (dx < 0) {
-            return (int) (4000 + roundedDown(2000 * -dy, m));
+            return (int) (4000 + 2000 * -dy / m);
         }
-        return (int) (6000 + roundedDown(2000 * dx, m));
+        return (int) (6000 + 2000 * dx / m);
     }
 
     private static int onCircle(long angle) {
         return (int) Math.floorMod(angle, (long) CIRCLE);
-    }
-
-    private static long roundedDown(long dividend, long divisor) {
-        if (divisor == 0) {
-            return 0;
-        }
-        return Math.floorDiv(dividend, divisor);
     }
 
     private static int roundedToZero(int dividend, int divisor) {
@@ -845,9 +842,12 @@ public final class PlumbShaft {
 
         /** How far it bends a wire of this mass at the depth z, along one axis. */
         int bend(int mass, int z, int axis) {
+            if (mass < 1) {
+                return 0;
+            }
             long force = axis == X_AXIS ? forceX : forceY;
             long overlap = Math.min(to, z) - Math.min(from, z);
-            return (int) roundedDown(force * overlap * z, 100L * mass);
+            return (int) Math.floorDiv(force * overlap * z, 100L * mass);
         }
     }
 
@@ -1078,7 +1078,7 @@ public final class PlumbShaft {
         }
 
         int mean() {
-            return (int) roundedDown(sum, taken);
+            return taken < 1 ? 0 : Math.floorDiv(sum, taken);
         }
 
         int spread() {

@@ -708,15 +708,23 @@ public final class ModelTest {
             int want = model.call(name, a);
             int got = callShaft(shaft, name, a);
             calls.add(name + Arrays.toString(a) + " = " + want);
-            String kind = name.equals("runOrders") && want <= -100 ? "fault" : want == REFUSED ? REFUSED + ", reason " + model.reason
-                    : want <= UNKNOWN && want >= NONE ? "" + want : "fine";
-            answered.merge(name + ": " + kind, 1, Integer::sum);
+            answered.merge(name + ": " + kindOf(name, want), 1, Integer::sum);
             if (got != want) {
                 wrong = true;
                 System.out.println(String.join("\n", calls));
                 System.out.println("the last one answered " + got);
             }
             return want;
+        }
+
+        private String kindOf(String name, int answer) {
+            if (name.equals("runOrders") && answer <= -100) {
+                return "fault";
+            }
+            if (answer == REFUSED) {
+                return "reason " + model.reason;
+            }
+            return answer <= UNKNOWN && answer >= NONE ? "" + answer : "fine";
         }
 
         private int from(int low, int high) {
