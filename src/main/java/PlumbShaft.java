@@ -681,6 +681,8 @@ public final class PlumbShaft {
         int y;
         int mass;
         int depth;
+        // Kept beside the depth, so that the chains of calls stay short.
+        int quarterTicks;
         int ex;
         int ey;
         int bucket;
@@ -694,6 +696,7 @@ public final class PlumbShaft {
             y = other.y;
             mass = other.mass;
             depth = other.depth;
+            quarterTicks = other.quarterTicks;
             ex = other.ex;
             ey = other.ey;
             bucket = other.bucket;
@@ -708,6 +711,7 @@ public final class PlumbShaft {
             y = newY;
             mass = newMass;
             depth = newDepth;
+            quarterTicks = 1 + newDepth / 100;
             ex = 0;
             ey = 0;
             bucket = 0;
@@ -729,12 +733,8 @@ public final class PlumbShaft {
             other.y = oldY;
         }
 
-        int quarterTicks() {
-            return 1 + depth / 100;
-        }
-
         int periodTicks() {
-            return 4 * quarterTicks();
+            return 4 * quarterTicks;
         }
 
         void swayOneTick() {
@@ -772,14 +772,13 @@ public final class PlumbShaft {
         }
 
         int swing() {
-            int quarter = quarterTicks();
-            if (phase < quarter) {
-                return roundedToZero(amplitude * phase, quarter);
+            if (phase < quarterTicks) {
+                return roundedToZero(amplitude * phase, quarterTicks);
             }
-            if (phase < 3 * quarter) {
-                return roundedToZero(amplitude * (2 * quarter - phase), quarter);
+            if (phase < 3 * quarterTicks) {
+                return roundedToZero(amplitude * (2 * quarterTicks - phase), quarterTicks);
             }
-            return roundedToZero(amplitude * (phase - 4 * quarter), quarter);
+            return roundedToZero(amplitude * (phase - 4 * quarterTicks), quarterTicks);
         }
 
         /** How far the wire is off its rest at a depth, along one axis. */

@@ -248,6 +248,90 @@ public final class HistoryEdgesTest {
         }
     }
 
+    /** Four wires, five currents, five stations with all observations, two of them oriented: other values each time. */
+    private static void fill(PlumbShaft shaft, int kind) {
+        int[] xs = {0, 900 + kind, kind, 900 + 2 * kind};
+        for (int wire = 0; wire < 4; wire++) {
+            shaft.hang(wire, xs[wire], 10 * wire + 3 * kind, 100 + kind + wire, 200 + 100 * kind + wire);
+            shaft.setClamp(wire, kind - wire, kind + 2 * wire);
+            shaft.setBucket(wire, (kind + wire) % 3);
+        }
+        for (int i = 0; i < 5; i++) {
+            shaft.addCurrent(i + kind, 20 + 9 * i + 4 * kind, 10 + i + 7 * kind, 40 - 2 * i - 5 * kind);
+            shaft.addStation(30 + 10 * i + kind, 100 * i + 13 * kind);
+        }
+        shaft.setTolerance(490 + kind);
+        for (int wire = 0; wire < 4; wire++) {
+            shaft.push(wire, (wire + kind) % 8, 10 + 2 * wire + kind);
+        }
+        for (int station = 0; station < 5; station++) {
+            for (int wire = 0; wire < 4; wire++) {
+                shaft.observe(wire, station, 1 + station + 2 * wire + kind);
+            }
+        }
+        due("oriented", shaft.orient(kind) >= 0 ? 1 : 0, 1);
+        due("oriented", shaft.orient(4) >= 0 ? 1 : 0, 1);
+    }
+
+    /** Each property of the state that can be told. */
+    private static int[] everything(PlumbShaft shaft) {
+        int[] seen = new int[199];
+        int n = 0;
+        for (int what = 0; what < 8; what++) {
+            seen[n++] = shaft.count(what);
+        }
+        for (int wire = 0; wire < 4; wire++) {
+            for (int what = 0; what <= 10; what++) {
+                seen[n++] = shaft.wire(wire, what);
+            }
+            for (int depth = 30; depth <= 200; depth += 34) {
+                seen[n++] = shaft.rest(wire, depth, 0);
+                seen[n++] = shaft.rest(wire, depth, 1);
+            }
+        }
+        for (int station = 0; station < 5; station++) {
+            for (int what = 0; what < 3; what++) {
+                seen[n++] = shaft.station(station, what);
+            }
+            for (int wire = 0; wire < 4; wire++) {
+                for (int what = 0; what < 4; what++) {
+                    seen[n++] = shaft.observation(station, wire, what);
+                }
+            }
+        }
+        for (int wire = 0; wire < 4; wire++) {
+            seen[n++] = shaft.observation(4, wire, 4);
+        }
+        return seen;
+    }
+
+    /** Each row of the state holds other values in between, so that each of them has to be brought back. */
+    private static void wholeStates() {
+        sentence("restore: Restores the state of a slot, where it stays.");
+        PlumbShaft first = new PlumbShaft();
+        fill(first, 1);
+        int[] one = everything(first);
+        PlumbShaft shaft = new PlumbShaft();
+        shaft.keep(1);
+        fill(shaft, 1);
+        shaft.keep(0);
+        shaft.restore(1);
+        due("empty", shaft.count(1) + shaft.count(2) + shaft.count(3), 0);
+        fill(shaft, 2);
+        shaft.restore(0);
+        dueAll("restored", everything(shaft), one);
+        sentence("undo() removes and restores the latest one.");
+        shaft = new PlumbShaft();
+        shaft.keep(1);
+        fill(shaft, 2);
+        shaft.keep(0);
+        shaft.restore(1);
+        fill(shaft, 1);
+        shaft.restore(0);
+        shaft.undo();
+        dueAll("undone", everything(shaft), one);
+    }
+
     private static void everyActIsRecorded() {
         sentence("Each call of a method that is described as an act, and returns no error (a refusal is one) and not"
                 + " NONE, records the state before it.");
@@ -443,6 +527,7 @@ public final class HistoryEdgesTest {
         keepAtZero();
         keepInPlace();
         notOfTheState();
+        wholeStates();
         everyActIsRecorded();
         everyActAtTheFullHistory();
         nothingElseIsRecorded();

@@ -312,6 +312,9 @@ public final class OrdersEdgesTest {
         fault(nine + "orient ", 70);
         fault(nine + "orient", 69);
         fault(nine + "orient;", 69);
+        fault(nine + "push 00", 70);
+        fault(nine + "swap 0 ", 70);
+        fault(nine + "look 0;", 69);
         fault(nine, 63);
         fault("x".repeat(70), 0);
         fault(" ".repeat(70), 0);
@@ -339,6 +342,27 @@ public final class OrdersEdgesTest {
         due("time", shaft.count(0), 83);
         shaft.type(';');
         due("typed on", shaft.runOrders(), -108);
+    }
+
+    /** A text that stood there before, and was longer, plays no part. */
+    private static void beginningsOfALongerText() {
+        sentence("clearText: Empties the text.");
+        String[] texts = {"push 0 0 1;wait 10", "look 0 0 1;swap 0 1", "orient 4;wait 60"};
+        for (String text : texts) {
+            for (int end = 0; end < text.length(); end++) {
+                String beginning = text.substring(0, end);
+                PlumbShaft shaft = new PlumbShaft();
+                run(shaft, text);
+                due("\"" + beginning + "\"", run(shaft, beginning), run(new PlumbShaft(), beginning));
+            }
+        }
+        PlumbShaft shaft = new PlumbShaft();
+        run(shaft, "push 0 0 1");
+        due("\"push\"", run(shaft, "push"), -104);
+        due("\"push 0 0 1\"", run(shaft, "push 0 0 1"), 0);
+        due("\"push 0\"", run(shaft, "push 0"), -106);
+        due("\"push 0 0 1\"", run(shaft, "push 0 0 1"), 0);
+        due("\"push 0 0\"", run(shaft, "push 0 0"), -108);
     }
 
     // ---- 17: runOrders
@@ -477,6 +501,7 @@ public final class OrdersEdgesTest {
         theFirstFault();
         longestText();
         afterALongerText();
+        beginningsOfALongerText();
         upToTheFirst();
         reasonsOfOrient();
         oneAct();
